@@ -418,9 +418,8 @@ public final class PrioritySearchTree {
     }
 
     public int causeReason() throws NoSuchElementException {
-        requireRejection();
         if (latestReason != COMMAND_REJECTED) {
-            throw new NoSuchElementException("the latest rejection was not caused by a command");
+            throw new NoSuchElementException("no command caused the latest rejection");
         }
         return latestCause;
     }

@@ -87,6 +87,15 @@ final class Check {
         return tree;
     }
 
+    /** A tree with the keys 0 to 23, each the left child of the next one. */
+    static PrioritySearchTree fullToTheLeft() {
+        PrioritySearchTree tree = new PrioritySearchTree();
+        for (int key = 0; key < 24; key++) {
+            tree.insert(key, key);
+        }
+        return tree;
+    }
+
     static String output(PrioritySearchTree tree, int length) {
         StringBuilder text = new StringBuilder();
         for (int i = 0; i < length; i++) {

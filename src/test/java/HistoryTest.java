@@ -60,11 +60,11 @@ public final class HistoryTest {
     private static void undoEach() {
         Check.promise(58);
         PrioritySearchTree x = Check.tree(10, 10, 20, 20);
-        x.setWindow(0, 0, 50, 0, 5);
+        x.setWindow(0, 9, 50, 9, 5);
         String before = Check.written(x);
         int rotations = x.rotationCount();
         Check.Call[] changes = {() -> x.insert(30, 30), () -> x.delete(20), () -> x.changePriority(10, 99),
-            () -> x.moveKey(20, 5), () -> x.deleteRange(0, 99), () -> x.setWindow(0, 0, 1, 2, 3),
+            () -> x.moveKey(20, 5), () -> x.deleteRange(0, 99), () -> x.setWindow(0, 11, 12, 11, 3),
             () -> x.removeWindow(0), () -> Check.run(x, "d10;x0;i3:99")};
         for (Check.Call change : changes) {
             change.answer();

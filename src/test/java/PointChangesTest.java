@@ -105,6 +105,10 @@ public final class PointChangesTest {
         Check.due(0, () -> x.delete(60));
         Check.fails(Check.NSEE, () -> x.delete(60));
         Check.due("", () -> Check.written(x));
+        PrioritySearchTree longest = Check.full(1);
+        longest.changePriority(23, 2);
+        Check.due(23, () -> longest.delete(23));
+        Check.due(1, () -> Check.fullToTheLeft().delete(23));
         // Of two children with the same priority, the one with the lower key comes up.
         PrioritySearchTree same = Check.tree(5, 9, 3, 7, 8, 7);
         Check.due(2, () -> same.delete(5));
@@ -137,6 +141,8 @@ public final class PointChangesTest {
         Check.due(1, x::rejectionDetail);
         Check.fails(Check.IAE, () -> x.changePriority(10, 100));
         Check.due(89, () -> x.priorityOf(10));
+        Check.due(23, () -> Check.full(1).changePriority(23, 2));
+        Check.due(1, () -> Check.full(1).changePriority(0, 0));
         // A point that is in the window already does not fill it more.
         Check.due(2, () -> x.changePriority(70, 99));
         Check.due(true, x::isConsistent);
@@ -192,6 +198,8 @@ public final class PointChangesTest {
         Check.fails(Check.IAE, () -> x.deleteRange(Integer.MIN_VALUE, Integer.MAX_VALUE));
         Check.due(2, x::size);
         Check.due(2, () -> x.deleteRange(0, 99));
+        Check.due(24, () -> Check.full(1).deleteRange(0, 99));
+        Check.due(24, () -> Check.fullToTheLeft().deleteRange(0, 23));
         Check.due(0, () -> x.deleteRange(0, 99));
         Check.due(0, x::size);
     }

@@ -9,6 +9,8 @@ public final class PointsTest {
         ends(x);
         neighbours(x);
         positions(x);
+        deepest(Check.full(5));
+        deepest(Check.fullToTheLeft());
         without(new PrioritySearchTree());
         Check.finish();
     }
@@ -94,6 +96,30 @@ public final class PointsTest {
             Check.promise(17);
             Check.fails(Check.NSEE, () -> x.keyByPriority(wrong));
         }
+    }
+
+    /** Trees with the greatest number of points and the greatest height. */
+    private static void deepest(PrioritySearchTree x) {
+        boolean toTheLeft = x.root() == 23;
+        for (int i = 0; i < 24; i++) {
+            int key = i;
+            Check.promise(8);
+            Check.due(true, () -> x.contains(key));
+            Check.promise(12);
+            Check.due(key, () -> x.floorKey(key));
+            Check.promise(13);
+            Check.due(key, () -> x.ceilingKey(key));
+            Check.promise(15);
+            Check.due(key, () -> x.rankOf(key));
+            Check.promise(16);
+            Check.due(key, () -> x.keyAt(key));
+            Check.promise(17);
+            Check.due(toTheLeft ? 23 - key : key, () -> x.keyByPriority(key));
+        }
+        Check.promise(10);
+        Check.due(0, x::lowestKey);
+        Check.promise(11);
+        Check.due(23, x::greatestKey);
     }
 
     private static void without(PrioritySearchTree x) {

@@ -102,6 +102,15 @@ public final class RangesTest {
     }
 
     private static void deepest() {
+        PrioritySearchTree left = Check.fullToTheLeft();
+        Check.promise(33);
+        Check.due(0, () -> left.topInRange(0, 0));
+        Check.promise(34);
+        Check.due(23, () -> left.topInRangeByScan(0, 99));
+        Check.promise(35);
+        Check.due(24, () -> left.countAbove(0, 99, 0));
+        Check.promise(36);
+        Check.due(24, () -> left.countAboveByScan(0, 99, 0));
         PrioritySearchTree x = Check.full(5);
         Check.promise(31);
         Check.due(1, () -> x.countInRange(23, 23));

@@ -5,6 +5,7 @@ public final class TotalsAndOutputTest {
         shares();
         consistent();
         writeTree();
+        writeDeepest();
         writeWindow();
         outputAt();
         Check.finish();
@@ -42,6 +43,12 @@ public final class TotalsAndOutputTest {
         Check.due(1f, () -> Check.tree(3, 3).leafShare());
         Check.due(1f / 24f, () -> Check.full(3).leafShare());
         Check.fails(Check.AE, () -> new PrioritySearchTree().leafShare());
+        x.delete(0);
+        x.delete(80);
+        Check.due(3f / 5f, x::leafShare);
+        Check.promise(46);
+        Check.due(6.0 / 5.0, x::meanDepth);
+        Check.promise(47);
         x.deleteRange(0, 99);
         Check.fails(Check.AE, x::leafShare);
         Check.promise(46);
@@ -81,6 +88,14 @@ public final class TotalsAndOutputTest {
         }
         Check.due(168, longest::writeTree);
         Check.due(due + ")".repeat(24), () -> Check.written(longest));
+    }
+
+    private static void writeDeepest() {
+        StringBuilder due = new StringBuilder("(".repeat(24));
+        for (int key = 0; key < 24; key++) {
+            due.append(key).append(":").append(key).append(")");
+        }
+        Check.due(due.toString(), () -> Check.written(Check.fullToTheLeft()));
     }
 
     private static void writeWindow() {
