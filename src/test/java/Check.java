@@ -16,13 +16,22 @@ final class Check {
 
     private static int passed;
     private static int failed;
-    private static int promise;
+    private static String place = "";
 
     private Check() {
     }
 
     static void promise(int number) {
-        promise = number;
+        place = "promise " + number;
+    }
+
+    static void sentence(int promise, String text) {
+        place = (promise == Sentence.TERMS ? "Terms" : "promise " + promise) + " \"" + text + "\"";
+    }
+
+    /** How many answers were looked at. */
+    static int count() {
+        return passed + failed;
     }
 
     static void due(String what, Object got, Object want) {
@@ -31,7 +40,7 @@ final class Check {
             return;
         }
         failed++;
-        System.out.println("promise " + promise + ": " + what + " answered " + got + ", due is " + want);
+        System.out.println(place + ": " + what + " answered " + got + ", due is " + want);
     }
 
     static void due(Object want, Call call) {

@@ -5,8 +5,9 @@ import java.util.Random;
  * of this test makes the same calls.
  */
 public final class ModelRunsTest {
-    private static final int RUNS = 600;
-    private static final int CALLS = 512;
+    private static final int RUNS = 2500;
+    // An object is used for 512 calls, and no step takes more than writeTree with a call for each of 168 characters.
+    private static final int LAST_STEP = 512 - 169;
     private static final int[] STRANGE = {-1, 100, 24, 25, 4, Integer.MIN_VALUE, Integer.MAX_VALUE, -100};
 
     private final Random random;
@@ -16,6 +17,7 @@ public final class ModelRunsTest {
     private final int keys;
     private final int priorities;
     private String latest = "";
+    private int calls;
 
     private ModelRunsTest(int seed) {
         random = new Random(seed);
@@ -26,22 +28,24 @@ public final class ModelRunsTest {
     public static void main(String[] args) {
         for (int seed = 0; seed < RUNS; seed++) {
             ModelRunsTest run = new ModelRunsTest(seed);
-            for (int call = 0; call < CALLS; call++) {
-                run.call(seed, call);
+            while (run.calls <= LAST_STEP) {
+                run.step(seed);
             }
         }
         Check.finish();
     }
 
-    private void call(int seed, int call) {
+    private void step(int seed) {
         int kind = random.nextInt(100);
-        Object[] answers = kind < 55 ? change() : kind < 90 ? look() : text();
-        Check.due("run " + seed + " call " + call + " " + latest, answers[0], answers[1]);
+        Object[] answers = kind < 60 ? change() : kind < 95 ? look() : text();
+        Check.due("run " + seed + " call " + calls + " " + latest, answers[0], answers[1]);
     }
 
     private Object[] both(String what, Check.Call onTree, Check.Call onModel) {
         latest = what;
-        return new Object[] {Check.outcome(onTree), Check.outcome(onModel)};
+        Object answer = Check.outcome(onTree);
+        calls += answer instanceof String ? 1 + ((String) answer).length() : 1;
+        return new Object[] {answer, Check.outcome(onModel)};
     }
 
     private int key() {
@@ -172,6 +176,7 @@ public final class ModelRunsTest {
                     commands = commands.substring(0, 60);
                 }
                 String input = commands;
+                calls += input.length();
                 return both("execute " + input, () -> Check.run(tree, input), () -> model.execute(input));
         }
     }
