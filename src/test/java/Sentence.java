@@ -16,8 +16,8 @@ final class Sentence {
     /** The section "Terms" ahead of the promises. */
     static final int TERMS = 0;
 
-    // Headings of paragraphs, and what only says which words are used: there is no edge to look at.
-    private static final Set<String> WITHOUT_EDGE = Set.of("Points.", "Tree.", "Rotations.", "Windows.", "Commands.",
+    // The headings of paragraphs in "Terms" end as sentences do.
+    private static final Set<String> HEADINGS = Set.of("Points.", "Tree.", "Rotations.", "Windows.", "Commands.",
             "Rejections.", "Changes.", "Exceptions.", "Further rules.");
 
     private static final Map<Integer, Set<String>> DOCUMENT = new LinkedHashMap<>();
@@ -39,13 +39,13 @@ final class Sentence {
         TESTED.add(promise + " " + sentence);
     }
 
-    /** Every sentence of the document is borne by a test, but for those that name no edge. */
+    /** Every sentence of the document is borne by a test. */
     static void allAreTested() {
         for (int promise = TERMS; promise <= 60; promise++) {
             for (String sentence : document(promise)) {
                 Check.sentence(promise, sentence);
                 boolean tested = TESTED.contains(promise + " " + sentence);
-                Check.due("a test bears this sentence", tested || WITHOUT_EDGE.contains(sentence), true);
+                Check.due("a test bears this sentence", tested || HEADINGS.contains(sentence), true);
             }
         }
     }
