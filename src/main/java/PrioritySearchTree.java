@@ -337,7 +337,7 @@ public final class PrioritySearchTree {
 
     public int writeTree() {
         output.clear();
-        writeSubtree(now.tree.topmost(), 0);
+        writeSubtree(now.tree, now.tree.topmost(), output, 0);
         return output.length;
     }
 
@@ -513,16 +513,16 @@ public final class PrioritySearchTree {
         latestCause = NO_REASON;
     }
 
-    private void writeSubtree(int slot, int depth) {
-        if (slot == NONE || depth >= MAX_POINTS) {
+    private static void writeSubtree(Tree tree, int slot, Output output, int depth) {
+        if (tree == null || slot == NONE || output == null || depth >= MAX_POINTS) {
             return;
         }
         output.write('(');
-        writeSubtree(now.tree.leftIn(slot), depth + 1);
-        output.writeNumber(now.tree.keyIn(slot));
+        writeSubtree(tree, tree.leftIn(slot), output, depth + 1);
+        output.writeNumber(tree.keyIn(slot));
         output.write(':');
-        output.writeNumber(now.tree.priorityIn(slot));
-        writeSubtree(now.tree.rightIn(slot), depth + 1);
+        output.writeNumber(tree.priorityIn(slot));
+        writeSubtree(tree, tree.rightIn(slot), output, depth + 1);
         output.write(')');
     }
 
@@ -910,20 +910,20 @@ public final class PrioritySearchTree {
         }
 
         int searchAbove(int low, int high, int priority) {
-            return searchAboveFrom(top, low, high, priority, 0);
+            return searchAboveFrom(this, top, low, high, priority, 0);
         }
 
-        private int searchAboveFrom(int slot, int low, int high, int priority, int depth) {
-            if (slot == NONE || depth >= MAX_POINTS || at(priorities, slot) < priority) {
+        private static int searchAboveFrom(Tree tree, int slot, int low, int high, int priority, int depth) {
+            if (tree == null || slot == NONE || depth >= MAX_POINTS || tree.priorityIn(slot) < priority) {
                 return 0;
             }
-            int key = at(keys, slot);
+            int key = tree.keyIn(slot);
             int count = key >= low && key <= high ? 1 : 0;
             if (key > low) {
-                count += searchAboveFrom(at(lefts, slot), low, high, priority, depth + 1);
+                count += searchAboveFrom(tree, tree.leftIn(slot), low, high, priority, depth + 1);
             }
             if (key < high) {
-                count += searchAboveFrom(at(rights, slot), low, high, priority, depth + 1);
+                count += searchAboveFrom(tree, tree.rightIn(slot), low, high, priority, depth + 1);
             }
             return count;
         }
@@ -1029,26 +1029,26 @@ public final class PrioritySearchTree {
         // -- checks
 
         boolean isSound() {
-            return isSoundFrom(top, -1, MAX_NUMBER + 1, 0);
+            return isSoundFrom(this, top, -1, MAX_NUMBER + 1, 0);
         }
 
-        private boolean isSoundFrom(int slot, int below, int above, int depth) {
-            if (slot == NONE) {
+        private static boolean isSoundFrom(Tree tree, int slot, int below, int above, int depth) {
+            if (tree == null || slot == NONE) {
                 return true;
             }
-            int key = at(keys, slot);
-            int left = at(lefts, slot);
-            int right = at(rights, slot);
+            int key = tree.keyIn(slot);
+            int left = tree.leftIn(slot);
+            int right = tree.rightIn(slot);
             if (depth >= MAX_POINTS || key <= below || key >= above) {
                 return false;
             }
-            if (left != NONE && belongsAbove(left, slot) || right != NONE && belongsAbove(right, slot)) {
+            if (left != NONE && tree.belongsAbove(left, slot) || right != NONE && tree.belongsAbove(right, slot)) {
                 return false;
             }
-            if (at(counts, slot) != 1 + at(counts, left) + at(counts, right)) {
+            if (tree.countIn(slot) != 1 + tree.countIn(left) + tree.countIn(right)) {
                 return false;
             }
-            return isSoundFrom(left, below, key, depth + 1) && isSoundFrom(right, key, above, depth + 1);
+            return isSoundFrom(tree, left, below, key, depth + 1) && isSoundFrom(tree, right, key, above, depth + 1);
         }
 
         boolean bothWaysAgree() {

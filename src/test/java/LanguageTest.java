@@ -25,6 +25,7 @@ public final class LanguageTest {
         faceIsWhole(source, face);
         nothingElseIsVisible(face);
         sourceKeepsRules(source);
+        methodsKeepRules(source);
         Check.finish();
     }
 
@@ -86,5 +87,20 @@ public final class LanguageTest {
         Matcher fields = Pattern.compile("\\bstatic (?!final\\b)[\\w\\[\\]]+ \\w+\\s*[;=]").matcher(bare);
         Check.due("a static field that is not final", fields.find(), false);
         Check.due("a static initialiser", Pattern.compile("\\bstatic\\s*\\{").matcher(bare).find(), false);
+    }
+
+    /** Methods are short, and one that calls itself is private and static. */
+    private static void methodsKeepRules(String source) {
+        Matcher method = Pattern.compile("(?m)^( +)((?:\\w+ )*[\\w\\[\\]]+) (\\w+)\\([^;{}]*\\{\n((?s:.*?)\n)?\\1}$").matcher(source);
+        int methods = 0;
+        for (; method.find(); methods++) {
+            String name = method.group(3);
+            String body = method.group(4) == null ? "" : method.group(4);
+            Check.due("lines of " + name + " at most sixty", body.lines().count() <= 60, true);
+            if (Pattern.compile("(?<![.\\w])" + name + "\\(").matcher(body).find()) {
+                Check.due(name + " calls itself", method.group(2).startsWith("private static "), true);
+            }
+        }
+        Check.due("methods found", methods > 150, true);
     }
 }
