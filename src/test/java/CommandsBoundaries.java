@@ -114,6 +114,15 @@ final class CommandsBoundaries {
             Check.due(7, () -> Check.run(x, ahead));
             Check.due("(((20:1)30:20)50:90((60:60)71:85))", () -> Check.written(x));
             Check.due(true, () -> x.isWindowSet(3) && !x.isWindowSet(1) && !x.isWindowSet(2));
+            // A command meets the points and windows that the commands ahead of it left.
+            for (String behind : new String[] {"p20:9;p50:8", "p50:30;p20:30", "m20>21;m50>51", "m50>19;m20>49", "d20", "d50",
+                "r15-45;i15:4", "i0:5;p20:4", "x1;p20:5;i0:5;m50>1", "w1=20-20^3/1;p20:5;m20>0;m50>20", "x2;i72:1;p72:2"}) {
+                sameAsOneByOne("d50;d20;i20:3;i50:4;" + behind);
+            }
+            for (String input : new String[] {"i55:20;p55:30", "i55:20;p55:3", "i55:20;m55>56", "i55:20;d55", "x1;i7:7;m7>8;p8:99",
+                "w0=50-59^0/2;i55:20;p55:91", "w3=0-99^0/5;x3;x1;i40:5"}) {
+                sameAsOneByOne(input);
+            }
         });
         Sentence.of(53, "The input is empty after the call, also if an exception is thrown.", () -> {
             PrioritySearchTree x = Check.tree(1, 1);
@@ -150,6 +159,20 @@ final class CommandsBoundaries {
             x.undo();
             Check.due(18, () -> Check.run(x, shortest + ";r1-1;r1-1;i1:1;d1"));
         });
+    }
+
+    /** An input does what its commands do in inputs of their own, one after the other. */
+    private static void sameAsOneByOne(String input) {
+        PrioritySearchTree x = Twins.worked();
+        PrioritySearchTree twin = Twins.worked();
+        String[] commands = input.split(";");
+        Check.due("execute of " + input, Check.run(x, input), commands.length);
+        for (String command : commands) {
+            Check.due(command + " of " + input, Check.run(twin, command), 1);
+        }
+        Check.due("the tree after " + input, Check.written(x), Check.written(twin));
+        Check.due("the data after " + input, Twins.data(x), Twins.data(twin));
+        Check.due(true, x::isConsistent);
     }
 
     private static void wrongSyntax() {
@@ -207,6 +230,13 @@ final class CommandsBoundaries {
             // What the commands ahead have changed counts: a point, a window, a place.
             Twins.rejectedCommand(2, PrioritySearchTree.KEY_TAKEN, Twins::worked, "d20;i20:1;i20:1");
             Twins.rejectedCommand(1, PrioritySearchTree.WINDOW_FULL, Twins::worked, "w0=0-99^0/5;i55:1");
+            Twins.rejectedCommand(1, PrioritySearchTree.WINDOW_FULL, Twins::worked, "i55:20;m55>45");
+            Twins.rejectedCommand(2, PrioritySearchTree.WINDOW_FULL, Twins::worked, "w1=5-49^5/3;i6:4;p6:5");
+            Twins.rejectedCommand(5, PrioritySearchTree.WINDOW_FULL, Twins::worked, "d50;d20;i20:3;i50:4;i0:5;p20:5");
+            Twins.rejectedCommand(5, PrioritySearchTree.WINDOW_FULL, Twins::worked, "d50;d20;i20:3;i50:7;i0:5;m50>49");
+            Twins.rejectedCommand(1, PrioritySearchTree.KEY_TAKEN, Twins::worked, "m10>11;m20>11");
+            Check.due(2, () -> Check.run(Twins.worked(), "m10>11;m20>10"));
+            Check.due(2, () -> Check.run(Twins.worked(), "p10:4;i0:5"));
             Check.due(2, () -> Check.run(Twins.worked(), "d20;i20:1"));
             Check.due(2, () -> Check.run(Twins.worked(), "x1;i0:5"));
             Check.due(2, () -> Check.run(Twins.full(), "d0;i24:7"));

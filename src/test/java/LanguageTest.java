@@ -91,7 +91,8 @@ public final class LanguageTest {
 
     /** Methods are short, and one that calls itself is private and static. */
     private static void methodsKeepRules(String source) {
-        Matcher method = Pattern.compile("(?m)^( +)((?:\\w+ )*[\\w\\[\\]]+) (\\w+)\\([^;{}]*\\{\n((?s:.*?)\n)?\\1}$").matcher(source);
+        String head = "^( +)((?:\\w+ )*[\\w\\[\\]]+) (\\w+)\\([^;{}]*\\{\n";
+        Matcher method = Pattern.compile("(?m)" + head + "((?s:.*?)\n)?\\1}$").matcher(source);
         int methods = 0;
         for (; method.find(); methods++) {
             String name = method.group(3);

@@ -11,7 +11,7 @@ import java.util.regex.Matcher;
 import java.util.regex.Pattern;
 import javax.tools.ToolProvider;
 
-/** README.md: its program prints what stands under it, its commands are the calls beside them, and no name is left out. */
+/** README.md: its program prints what stands under it, its commands are the calls beside them, no name is left out. */
 public final class ReadmeTest {
     private static final List<String> OBJECT_METHODS = List.of("wait", "notify", "notifyAll", "getClass", "equals",
             "hashCode", "toString");
