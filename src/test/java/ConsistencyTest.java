@@ -56,6 +56,12 @@ public final class ConsistencyTest {
         // The same priority is right for a child with a greater key.
         ((int[]) part(x, "now", "tree", "priorities"))[3] = 90;
         Check.due(true, x::isConsistent);
+        // A left child below a right child: the root is the greatest of all ranges that have both.
+        for (int priority : new int[] {84, 85, 86, 90}) {
+            PrioritySearchTree y = Check.tree(50, 90, 70, 85, 60, 10);
+            ((int[]) part(y, "now", "tree", "priorities"))[3] = priority;
+            Check.due("priority " + priority, y.isConsistent(), priority < 85);
+        }
     }
 
     private static void wrongCounts() throws ReflectiveOperationException {

@@ -198,6 +198,13 @@ final class PointsBoundaries {
             // The greatest differences there are.
             Check.due(99, () -> Check.tree(99, 0).nearestKey(0));
             Check.due(0, () -> Check.tree(0, 0).nearestKey(99));
+            // Below all keys, and above all of them.
+            PrioritySearchTree inside = Check.tree(40, 5, 60, 9);
+            for (int i = 0; i < 49; i++) {
+                int number = i;
+                Check.due(40, () -> inside.nearestKey(number));
+                Check.due(60, () -> inside.nearestKey(99 - number));
+            }
         });
         Sentence.of(14, "Of two such keys, the lower one is returned.", () -> {
             Check.due(0, () -> Edges.ends().nearestKey(25));

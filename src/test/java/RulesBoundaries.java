@@ -235,6 +235,37 @@ final class RulesBoundaries {
         Check.due(reason + " " + detail + " none", () -> Twins.rejection(x));
     }
 
+    /** A window of a lower index does not count if the point is beside it, or in it before and after. */
+    private static void rightBesideFullWindows() {
+        PrioritySearchTree x = Check.tree(10, 50, 20, 40, 30, 30, 31, 0, 50, 60, 60, 40);
+        x.setWindow(0, 10, 29, 41, 1);
+        x.setWindow(1, 30, 39, 1, 1);
+        x.setWindow(2, 0, 99, 60, 1);
+        x.setWindow(3, 15, 29, 40, 1);
+        int full = PrioritySearchTree.WINDOW_FULL;
+        rejected(x, () -> x.insert(25, 41), full, 0);
+        rejected(x, () -> x.insert(25, 40), full, 3);
+        rejected(x, () -> x.insert(29, 40), full, 3);
+        rejected(x, () -> x.insert(39, 1), full, 1);
+        rejected(x, () -> x.insert(40, 60), full, 2);
+        rejected(x, () -> x.changePriority(10, 60), full, 2);
+        rejected(x, () -> x.changePriority(20, 41), full, 0);
+        rejected(x, () -> x.changePriority(31, 1), full, 1);
+        rejected(x, () -> x.changePriority(31, 2), full, 1);
+        rejected(x, () -> x.changePriority(60, 60), full, 2);
+        rejected(x, () -> x.moveKey(10, 15), full, 3);
+        rejected(x, () -> x.moveKey(10, 32), full, 1);
+        rejected(x, () -> x.moveKey(60, 16), full, 3);
+        rejected(x, () -> x.moveKey(60, 29), full, 3);
+        rejected(x, () -> x.moveKey(60, 39), full, 1);
+        rejected(x, () -> x.moveKey(50, 29), full, 0);
+        for (String right : new String[] {"i25:39", "i14:40", "i9:59", "i39:0", "p10:59", "p20:40", "p31:0", "p60:59", "m10>14",
+            "m20>29", "m60>40", "m60>14", "m50>40", "m31>39", "m30>32"}) {
+            Check.due(1, () -> Check.run(x, right));
+            x.undo();
+        }
+    }
+
     private static void details() {
         terms("The constants: `POINT_LIMIT = 1`: Reason: there are 24 points.", () -> {
             PrioritySearchTree x = Check.full(7);
@@ -297,6 +328,7 @@ final class RulesBoundaries {
             x.setWindow(1, 0, 9, 5, 1);
             rejected(x, () -> x.changePriority(6, 5), PrioritySearchTree.WINDOW_FULL, 1);
             rejected(x, () -> x.setWindow(2, 0, 9, 0, 1), PrioritySearchTree.WINDOW_FULL, 2);
+            rightBesideFullWindows();
         });
         terms("`COMMAND_REJECTED = 4`: Reason: a command is rejected.", () -> {
             PrioritySearchTree x = Check.tree(5, 5);
