@@ -8,6 +8,7 @@ public final class EveryArgumentTest {
     // An object is used for 512 calls, and no step takes more than one with a whole input.
     private static final int LAST_STEP = 512 - 80;
     private static final int[] PRIORITIES = {0, 1, 2, 3, 20, 21, 50, 51, 93, 99};
+    private static final String[] SHAPES = {"to the left", "to the right", "zigzag", "level", "scattered", "one priority"};
 
     private final String shape;
     private final int[] points;
@@ -24,20 +25,14 @@ public final class EveryArgumentTest {
     }
 
     public static void main(String[] args) {
-        for (int count : new int[] {0, 1, 2, 3, 9, 23, 24}) {
-            for (String shape : new String[] {"to the left", "to the right", "zigzag", "level", "scattered", "one priority"}) {
-                EveryArgumentTest test = new EveryArgumentTest(shape + " " + count, points(shape, count));
-                test.looksAtOneKey();
-                test.looksAtTwoKeys();
-                test.looksAtRanges();
-                test.looksAtAll();
+        for (String shape : SHAPES) {
+            for (int count : new int[] {0, 1, 2, 3, 9, 23, 24}) {
+                looks(shape + " " + count, points(shape, count, 4), 100);
             }
+            looks(shape + " close together", points(shape, 24, 1), 30);
         }
-        for (int single : new int[] {0, 99}) {
-            EveryArgumentTest test = new EveryArgumentTest("single " + single, beside(single));
-            test.looksAtRanges();
-            test.looksAtAll();
-        }
+        looks("0 alone on its side", beside(0), 100);
+        looks("99 alone on its side", beside(99), 100);
         changes();
         signs();
         Check.finish();
@@ -45,14 +40,15 @@ public final class EveryArgumentTest {
 
     // ---- shapes
 
-    private static int[] points(String shape, int count) {
+    /** Points whose keys have this distance, in the order in which the shape lists them. */
+    private static int[] points(String shape, int count, int distance) {
         int[] points = new int[2 * count];
         for (int i = 0; i < count; i++) {
-            points[2 * i] = 4 * i + 3;
+            points[2 * i] = distance * i + distance - 1;
             points[2 * i + 1] = 99 - 4 * i;
             switch (shape) {
-                case "to the left" -> points[2 * i] = 96 - 4 * i;
-                case "zigzag" -> points[2 * i] = i % 2 == 0 ? 99 - 2 * i : 2 * i - 2;
+                case "to the left" -> points[2 * i] = distance * (24 - i);
+                case "zigzag" -> points[2 * i] = i % 2 == 0 ? 99 - distance * (i / 2) : distance * (i / 2);
                 case "level" -> points[2 * i + 1] = 20 * Integer.numberOfTrailingZeros(i + 1) + i % 3;
                 case "scattered" -> points[2 * i + 1] = (37 * i + 11) % 100;
                 case "one priority" -> points[2 * i + 1] = 50;
@@ -120,6 +116,14 @@ public final class EveryArgumentTest {
 
     // ---- looks
 
+    private static void looks(String shape, int[] points, int mostKey) {
+        EveryArgumentTest test = new EveryArgumentTest(shape, points);
+        test.looksAtOneKey();
+        test.looksAtTwoKeys();
+        test.looksAtRanges(mostKey);
+        test.looksAtAll();
+    }
+
     private void looksAtOneKey() {
         for (int number = -2; number <= 101; number++) {
             int n = number;
@@ -157,9 +161,9 @@ public final class EveryArgumentTest {
         }
     }
 
-    private void looksAtRanges() {
-        for (int i = -1; i <= 100; i++) {
-            for (int j = i - 1; j <= 100; j++) {
+    private void looksAtRanges(int mostKey) {
+        for (int i = -1; i <= mostKey; i++) {
+            for (int j = i - 1; j <= mostKey; j++) {
                 int low = i;
                 int high = j;
                 int p = PRIORITIES[(i + 11 * j + 102) % PRIORITIES.length];
@@ -202,7 +206,7 @@ public final class EveryArgumentTest {
         int[][] rooms = {{0, 0, 0, 0}, {1, 0, 1, 0}, {0, 1, 0, 1}, {24, 24, 24, 24}};
         for (String shape : new String[] {"zigzag", "level", "scattered"}) {
             for (int i = 0; i < rooms.length; i++) {
-                int[] points = points(shape, 21 + i);
+                int[] points = points(shape, 21 + i, 4);
                 EveryArgumentTest test = new EveryArgumentTest(shape + Arrays.toString(rooms[i]), points,
                         windowsFor(points, rooms[i]));
                 test.insertsAll();
@@ -286,7 +290,7 @@ public final class EveryArgumentTest {
 
     /** Each sign behind each beginning of an input that has all commands. */
     private static void signs() {
-        int[] points = points("level", 9);
+        int[] points = points("level", 9, 4);
         EveryArgumentTest test = new EveryArgumentTest("inputs", points, windowsFor(points, 9, 9, 9, 9));
         String whole = "i12:34;d3;p07:78;m7>10;r11-12;w3=4-56^7/8;x0;d15";
         for (int length = 0; length <= whole.length(); length++) {

@@ -237,7 +237,7 @@ final class RulesBoundaries {
 
     /** A window of a lower index does not count if the point is beside it, or in it before and after. */
     private static void rightBesideFullWindows() {
-        PrioritySearchTree x = Check.tree(10, 50, 20, 40, 30, 30, 31, 0, 50, 60, 60, 40);
+        PrioritySearchTree x = Check.tree(10, 50, 20, 40, 30, 30, 31, 0, 50, 60, 60, 40, 1, 7, 2, 7);
         x.setWindow(0, 10, 29, 41, 1);
         x.setWindow(1, 30, 39, 1, 1);
         x.setWindow(2, 0, 99, 60, 1);
@@ -252,7 +252,9 @@ final class RulesBoundaries {
         rejected(x, () -> x.changePriority(20, 41), full, 0);
         rejected(x, () -> x.changePriority(31, 1), full, 1);
         rejected(x, () -> x.changePriority(31, 2), full, 1);
-        rejected(x, () -> x.changePriority(60, 60), full, 2);
+        for (int key : new int[] {1, 2, 60}) {
+            rejected(x, () -> x.changePriority(key, 60), full, 2);
+        }
         rejected(x, () -> x.moveKey(10, 15), full, 3);
         rejected(x, () -> x.moveKey(10, 32), full, 1);
         rejected(x, () -> x.moveKey(60, 16), full, 3);
